@@ -19,8 +19,8 @@ public final class SideWords {
 
     private final Text text = new Text();
     private final Code code = new Code();
-    private final Receiver now = new Receiver(code);
-    private final Acts acts = new Acts(code);
+    private final Receiver now = new Receiver();
+    private final Acts acts = new Acts();
     private final Receiver[] slots = new Receiver[SLOTS];
     private final boolean[] kept = new boolean[SLOTS];
     /** Rows for what is only asked: one for each WORD that CHANCE spoils, and one behind them. */
@@ -33,10 +33,10 @@ public final class SideWords {
 
     public SideWords() {
         for (int i = 0; i < SLOTS; i++) {
-            slots[i] = new Receiver(code);
+            slots[i] = new Receiver();
         }
         for (int i = 0; i < trials.length; i++) {
-            trials[i] = new Receiver(code);
+            trials[i] = new Receiver();
         }
     }
 
@@ -187,7 +187,7 @@ public final class SideWords {
             return BAD;
         }
         acts.remember(now);
-        now.hearBits(v, n);
+        now.hearBits(code, v, n);
         return now.syncBit();
     }
 
@@ -199,7 +199,7 @@ public final class SideWords {
             return BAD;
         }
         acts.remember(now);
-        now.hearBits(code.wordOf(k, d) ^ mask, WORD_BITS);
+        now.hearBits(code, code.wordOf(k, d) ^ mask, WORD_BITS);
         return now.syncBit();
     }
 
@@ -243,7 +243,7 @@ public final class SideWords {
                 return n;
             }
             if (n < MAX_TIMES) {
-                trial.hearBits(row, GROUP_BITS);
+                trial.hearBits(code, row, GROUP_BITS);
             }
         }
         return NONE;
@@ -319,7 +319,7 @@ public final class SideWords {
             all *= TENTHS;
         }
         trials[0].copyFrom(now);
-        return fraction(waysToSync(trials, code.groupRow(group), x, words, 0), all, upper);
+        return fraction(waysToSync(code, trials, code.groupRow(group), x, words, 0), all, upper);
     }
 
     public long seed(long v) {
@@ -336,7 +336,7 @@ public final class SideWords {
         int often = 0;
         for (int i = 0; i < m; i++) {
             theSeed = theSeed * SEED_FACTOR + SEED_STEP;
-            trial.hearBits(drawnWord((int) (theSeed >>> 33), i & 3), WORD_BITS);
+            trial.hearBits(code, drawnWord((int) (theSeed >>> 33), i & 3), WORD_BITS);
             often += trial.syncBit();
         }
         return often;
@@ -409,7 +409,7 @@ public final class SideWords {
     private void hearGroups(Receiver receiver, int group, int n) {
         long row = code.groupRow(group);
         for (int i = 0; i < n; i++) {
-            receiver.hearBits(row, GROUP_BITS);
+            receiver.hearBits(code, row, GROUP_BITS);
         }
     }
 
@@ -442,7 +442,7 @@ public final class SideWords {
         if (!isOffset(k) || !isByte(d)) {
             return false;
         }
-        trial.hearBits(code.wordOf(k, d), WORD_BITS);
+        trial.hearBits(code, code.wordOf(k, d), WORD_BITS);
         return true;
     }
 
@@ -466,12 +466,12 @@ public final class SideWords {
             int behind = GROUP_BITS - 1 - place;
             if (((places >> place) & 1L) != 0L) {
                 turned.copyFrom(ahead);
-                turned.hearBits(row ^ (1L << behind), behind + 1);
+                turned.hearBits(code, row ^ (1L << behind), behind + 1);
                 if (turned.countOf(seenCounts[i]) == due) {
                     fitting |= 1L << place;
                 }
             }
-            ahead.hearBits(row >> behind, 1);
+            ahead.hearBits(code, row >> behind, 1);
         }
         return fitting;
     }
@@ -486,7 +486,7 @@ public final class SideWords {
         }
         Receiver trial = freshTrial();
         for (int i = 0; i < SHARE_TIMES; i++) {
-            trial.hearBits(row, GROUP_BITS);
+            trial.hearBits(code, row, GROUP_BITS);
         }
         return trial.good;
     }
@@ -504,7 +504,7 @@ public final class SideWords {
     }
 
     /** Of ten to the power of the WORDS to come, how many ways bring SYNC, from rows[depth] on. */
-    private static int waysToSync(Receiver[] rows, long groupRow, int x, int words, int depth) {
+    private static int waysToSync(Code code, Receiver[] rows, long groupRow, int x, int words, int depth) {
         if (depth >= words || depth + 1 >= rows.length) {
             return rows[depth].syncBit();
         }
@@ -513,13 +513,13 @@ public final class SideWords {
         int ways = 0;
         if (x < TENTHS) {
             next.copyFrom(rows[depth]);
-            next.hearBits(word, WORD_BITS);
-            ways += (TENTHS - x) * waysToSync(rows, groupRow, x, words, depth + 1);
+            next.hearBits(code, word, WORD_BITS);
+            ways += (TENTHS - x) * waysToSync(code, rows, groupRow, x, words, depth + 1);
         }
         if (x > 0) {
             next.copyFrom(rows[depth]);
-            next.hearBits(word ^ WORD_MASK, WORD_BITS);
-            ways += x * waysToSync(rows, groupRow, x, words, depth + 1);
+            next.hearBits(code, word ^ WORD_MASK, WORD_BITS);
+            ways += x * waysToSync(code, rows, groupRow, x, words, depth + 1);
         }
         return ways;
     }
@@ -753,7 +753,6 @@ public final class SideWords {
     private static final class Receiver {
         static final int MAX_HIT_WORDS = 4;
 
-        final Code code;
         final Shown shown = new Shown();
         final int[] parts = new int[OFFSETS];
         int window;
@@ -770,8 +769,7 @@ public final class SideWords {
         int lastHitAt;
         int lastHitOffset;
 
-        Receiver(Code code) {
-            this.code = code;
+        Receiver() {
             clear();
         }
 
@@ -842,12 +840,12 @@ public final class SideWords {
         }
 
         /** The lowest n bits of a row, the highest of these first. */
-        void hearBits(long row, int n) {
+        void hearBits(Code code, long row, int n) {
             for (int i = n - 1; i >= 0; i--) {
                 window = ((window << 1) | ((int) (row >> i) & 1)) & WORD_MASK;
                 heard++;
                 since++;
-                boolean groupEnds = sync ? goOn() : seekSync();
+                boolean groupEnds = sync ? goOn(code) : seekSync(code);
                 if (groupEnds) {
                     shown.takeGroup(parts);
                 }
@@ -855,7 +853,7 @@ public final class SideWords {
         }
 
         /** A bit without SYNC: whether a GROUP is to be looked at. */
-        private boolean seekSync() {
+        private boolean seekSync(Code code) {
             int k = since >= WORD_BITS ? code.hitOf(window) : NONE;
             if (k == NONE) {
                 return false;
@@ -889,13 +887,13 @@ public final class SideWords {
         }
 
         /** A bit with SYNC: whether a GROUP is to be looked at. */
-        private boolean goOn() {
+        private boolean goOn(Code code) {
             phase++;
             if (phase < WORD_BITS) {
                 return false;
             }
             phase = 0;
-            takeBlock();
+            takeBlock(code);
             if (bads >= code.hold) {
                 lose();
                 return false;
@@ -904,7 +902,7 @@ public final class SideWords {
             return due == 0;
         }
 
-        private void takeBlock() {
+        private void takeBlock(Code code) {
             if (due == 0) {
                 Arrays.fill(parts, NONE);
             }
@@ -1080,9 +1078,9 @@ public final class SideWords {
         int next = 0;
         int count = 0;
 
-        Acts(Code code) {
+        Acts() {
             for (int i = 0; i < MAX_ACTS; i++) {
-                befores[i] = new Receiver(code);
+                befores[i] = new Receiver();
             }
         }
 
