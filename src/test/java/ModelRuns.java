@@ -26,7 +26,8 @@ public final class ModelRuns {
         }
         due.about("what the runs came by");
         String[] things = {"SYNC", "MENDED", "SPOILT", "LOSSES", "a full ACTS", "THE PROGRAM", "THE CLOCK", "FLAG 1",
-            "a full LIST", "a NAME", "99 times HEARD OF", "BADS over 3", "a full SEEN", "some WHICH", "again"};
+            "a full LIST", "a NAME", "99 times HEARD OF", "BADS over 3", "a full SEEN", "some WHICH", "again",
+            "a SHARE below 0"};
         for (int i = 0; i < things.length; i++) {
             due.holds(things[i] + " came " + came[i] + " times", came[i] >= 20);
         }
@@ -256,7 +257,9 @@ public final class ModelRuns {
                 break;
             case 4: case 5:
                 int word = mostlyBelow(4);
-                due.is("share(" + group + ", " + word + ", true)", x.share(group, word, true), y.share(group, word, true));
+                int above = y.share(group, word, true);
+                due.is("share(" + group + ", " + word + ", true)", x.share(group, word, true), above);
+                came[15] += word >= 0 && word < 4 && above < 0 ? 1 : 0;
                 due.is("share(" + group + ", " + word + ", false)", x.share(group, word, false),
                     y.share(group, word, false));
                 break;

@@ -434,6 +434,7 @@ public final class PromiseTests {
         syncFound();
         syncFarApart();
         syncHeldAndLost();
+        hitsNeedFourteenBits();
         group();
         reset();
         undo();
@@ -558,6 +559,40 @@ public final class PromiseTests {
         due.is("HOLD 1", x.hear(0, 128, 1), 0);
         x.bits(13, x.word(0, 128) & 8191);
         due.is("13 bits behind a loss are too few", x.hear(1, 3, 0), 0);
+    }
+
+    /** Behind 13 bits THE WINDOW can have REST 0 already, by a bit ahead of them: that is no HIT yet. */
+    private static void hitsNeedFourteenBits() {
+        due.about("SINCE");
+        for (int way = 0; way < 3; way++) {
+            int tried = 0;
+            for (int d = 0; d < 128; d++) {
+                for (int e = 0; e < 256; e++) {
+                    SideWords x = heardA("01", 0);
+                    if (x.slips(0, d, e) != 0) {
+                        continue;
+                    }
+                    tried++;
+                    leaveZeroBit(x, way);
+                    x.bits(13, x.word(0, d));
+                    due.is("13 bits and a WORD, way " + way, x.hear(1, e, 0), 0);
+                }
+            }
+            due.holds("some were tried", tried > 100);
+        }
+    }
+
+    /** SINCE is 0 and the last bit was 0: of a new station (way 0), by RESET (1), by a loss (2). */
+    private static void leaveZeroBit(SideWords x, int way) {
+        if (way == 1) {
+            x.bits(1, 0);
+            x.reset();
+        }
+        if (way == 2) {
+            x.group(A, 1);
+            int w = x.word(0, 128);
+            due.is("lost", x.bits(14, w ^ ((w & 1) == 1 ? 1 : 2)), 0);
+        }
     }
 
     /** Two bits that LONG 1 does not mend. */
