@@ -66,7 +66,9 @@ public final class SideWords {
         code.takeFrom(text);
         now.clear();
         acts.forget();
-        Arrays.fill(kept, false);
+        for (int i = 0; i < SLOTS; i++) {
+            kept[i] = false;
+        }
         return code.g;
     }
 
