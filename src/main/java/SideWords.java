@@ -145,7 +145,7 @@ public final class SideWords {
         if (!isWord(w)) {
             return BAD;
         }
-        int block = code.blockOf(k, w);
+        int block = code.blockOf(w, code.restFor(k, w));
         return block == NONE ? NONE : block >> CHECK_BITS;
     }
 
@@ -719,9 +719,8 @@ public final class SideWords {
             return offsetOfRest[restOf(w)];
         }
 
-        /** The WORD that a BLOCK w of OFFSET k is taken for; NONE: it is SPOILT. */
-        int blockOf(int k, int w) {
-            int r = restFor(k, w);
+        /** The WORD that a BLOCK w with REST r (0 .. 63) is taken for; NONE: it is SPOILT. */
+        int blockOf(int w, int r) {
             if (r == 0) {
                 return w;
             }
@@ -908,7 +907,7 @@ public final class SideWords {
             if (due == 0) {
                 Arrays.fill(parts, NONE);
             }
-            int block = code.blockOf(due, window);
+            int block = code.blockOf(window, code.restFor(due, window));
             parts[due] = block == NONE ? NONE : block >> CHECK_BITS;
             countBlock(block);
         }

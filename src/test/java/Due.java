@@ -26,6 +26,10 @@ final class Due {
         return wrong;
     }
 
+    int asked() {
+        return asked;
+    }
+
     /** Ends the machine with exit code 1 if an answer was wrong. */
     void end() {
         System.out.println(asked + " answers looked at, " + wrong + " not as due");

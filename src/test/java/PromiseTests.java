@@ -1,16 +1,7 @@
-/**
- * Each promise by itself. Numbers are worked out by hand from the document, mostly for the station S0310203040LH
- * (x^6 + x + 1; OFFSETS 10, 20, 30, 40): there GROUP A has no false HITS between its WORDS, so it brings SYNC at
- * once, by its second WORD.
- */
-public final class PromiseTests {
-    /** 128; 3 (KIND 0, PLACE 3); 129, 133. */
-    private static final int A = 0x80038185;
-    private static final int PAIR = 256 * 129 + 133;
-    private static final int NONE = -9, UNKNOWN = -1, BAD = -2, LATE = -3, FULL = -4;
-    private static final int[] FAR = {Integer.MIN_VALUE, -1, Integer.MAX_VALUE};
-
-    private static final Due due = new Due();
+/** Each promise by itself. Numbers are worked out by hand from the document. */
+public final class PromiseTests extends Made {
+    private PromiseTests() {
+    }
 
     public static void main(String[] args) {
         theStation();
@@ -20,40 +11,6 @@ public final class PromiseTests {
         seenAndShared();
         slots();
         due.end();
-    }
-
-    // ---- objects to ask
-
-    private static SideWords told(String station) {
-        SideWords x = new SideWords();
-        spell(x, station);
-        x.station();
-        return x;
-    }
-
-    private static void spell(SideWords x, String text) {
-        for (char c : text.toCharArray()) {
-            x.write(c);
-        }
-    }
-
-    /** LONG and HOLD as told; GROUP A was HEARD n times. */
-    private static SideWords heardA(String longAndHold, int n) {
-        SideWords x = told("S0310203040" + longAndHold);
-        if (n > 0) {
-            x.group(A, n);
-        }
-        return x;
-    }
-
-    private static int faultOf(String text) {
-        SideWords x = new SideWords();
-        spell(x, text);
-        return x.fault();
-    }
-
-    private static int groupOf(int a, int b, int c, int d) {
-        return a << 24 | b << 16 | c << 8 | d;
     }
 
     // ---- promises 1 to 11
@@ -523,10 +480,6 @@ public final class PromiseTests {
         return 0;
     }
 
-    private static String binary(int w) {
-        return Integer.toBinaryString(1 << 14 | w).substring(1);
-    }
-
     private static void syncHeldAndLost() {
         due.about("promise 19: held and lost");
         SideWords x = heardA("13", 1);
@@ -886,10 +839,6 @@ public final class PromiseTests {
             due.is("like shares", x.share(A, word, true), 3);
             due.is("like shares", x.share(A, word, false), 1);
         }
-    }
-
-    private static int gcd(int a, int b) {
-        return b == 0 ? Math.abs(a) : gcd(b, a % b);
     }
 
     private static void chance() {

@@ -5,7 +5,9 @@ import java.lang.reflect.Method;
 import java.lang.reflect.Modifier;
 import java.nio.file.Files;
 import java.nio.file.Path;
+import java.util.Map;
 import java.util.Set;
+import java.util.TreeMap;
 import java.util.TreeSet;
 import java.util.regex.Matcher;
 import java.util.regex.Pattern;
@@ -28,6 +30,7 @@ public final class RuleTests {
         face();
         words(Files.readString(FILE));
         methodsStayShort(Files.readString(FILE));
+        callsStayShallow(Files.readString(FILE));
         room();
         due.end();
     }
@@ -123,6 +126,53 @@ public final class RuleTests {
                 begun = -1;
             }
         }
+    }
+
+    /** Calls go at most eight deep, a method's calls of itself set aside. */
+    private static void callsStayShallow(String source) {
+        due.about("depth");
+        Map<String, Set<String>> calls = new TreeMap<>();
+        Matcher heads = Pattern.compile("(?m)^ {4,8}(?:\\w+ )*\\w+(?:\\[\\])? (\\w+)\\([^)]*\\) \\{$").matcher(source);
+        while (heads.find()) {
+            Set<String> called = calledIn(bodyAt(source, heads.end()));
+            calls.computeIfAbsent(heads.group(1), name -> new TreeSet<>()).addAll(called);
+        }
+        due.holds("all methods are seen", calls.keySet().containsAll(Set.of("judge", "hearBits", "restOf")));
+        for (String name : calls.keySet()) {
+            int deep = depthOf(name, calls, 0);
+            due.holds(name + " goes " + deep + " deep", deep <= 8);
+        }
+    }
+
+    private static String bodyAt(String source, int from) {
+        int open = 1;
+        int at = from;
+        while (open > 0) {
+            open += source.charAt(at) == '{' ? 1 : source.charAt(at) == '}' ? -1 : 0;
+            at++;
+        }
+        return source.substring(from, at);
+    }
+
+    private static Set<String> calledIn(String body) {
+        Set<String> names = new TreeSet<>();
+        Matcher calls = Pattern.compile("(\\w+)\\(").matcher(body);
+        while (calls.find()) {
+            names.add(calls.group(1));
+        }
+        names.removeAll(Set.of("if", "for", "while", "switch", "return"));
+        return names;
+    }
+
+    /** Calls of the library count as one. */
+    private static int depthOf(String name, Map<String, Set<String>> calls, int above) {
+        int deepest = 0;
+        for (String next : calls.getOrDefault(name, Set.of())) {
+            if (!next.equals(name) && above < 40) {
+                deepest = Math.max(deepest, depthOf(next, calls, above + 1));
+            }
+        }
+        return deepest + 1;
     }
 
     /** All calls of a run live in one room, so a call makes nothing that stays. */
